@@ -165,6 +165,21 @@ public final class PromiseTest {
         due("3: 12 / 12 is less than 17 / 16", () -> q.shift(1), 0);
     }
 
+    /** Five by five cells of which the later ones lie at a shift, registered. */
+    private static PictureChange texturedAt(int across, int down) {
+        PictureChange p = new PictureChange(5, 5);
+        for (int y = 0; y < 5; y++) {
+            for (int x = 0; x < 5; x++) {
+                p.cell(false, x, y, texture(x, y));
+                p.cell(true, x, y, texture(x - across, y - down));
+            }
+        }
+        due("3: textured", () -> p.register(3), 0);
+        due("4: textured, across", () -> p.shift(0), across);
+        due("4: textured, down", () -> p.shift(1), down);
+        return p;
+    }
+
     /** Values that no shift but the true one lays on their like. */
     private static int texture(int x, int y) {
         return 10 + Math.floorMod(x * x * 71 + y * 57 + x * y * 37, 200);
@@ -318,11 +333,23 @@ public final class PromiseTest {
         due("6: sum", () -> p.register(1), 0);
         due("6: shifted", () -> p.shift(0), 1);
         p.chart(3, 0, true);
+        p.cell(true, 0, 1, 80);
         due("6: a chart that lies on none", () -> p.gain(0), 1);
         p.chart(0, 0, true);
         p.cell(true, 1, 0, 50);
         due("6: the chart's cell at the shift, above", () -> p.gain(0), 2);
         due("6: the chart's cell at the shift, below", () -> p.gain(1), 1);
+
+        PictureChange both = texturedAt(1, 2);
+        both.chart(0, 0, true);
+        both.cell(false, 0, 0, 60);
+        both.cell(true, 1, 2, 80);
+        due("6: across and down, above", () -> both.gain(0), 3);
+        due("6: across and down, below", () -> both.gain(1), 4);
+        both.cell(true, 4, 4, 100);
+        both.cell(false, 3, 2, 5);
+        due("10: across and down", () -> both.change(3, 2), 70);
+        due("10: below the later one", () -> both.change(0, 3), 0);
 
         PictureChange full = new PictureChange(24, 24);
         for (int k = 0; k < 12; k++) {
@@ -369,6 +396,8 @@ public final class PromiseTest {
     private static void bound() {
         PictureChange p = new PictureChange(4, 6);
         due("9: no repeat", () -> p.bound(3, 5), 10);
+        p.cell(false, 0, 0, 200);
+        due("9: no repeat, whatever the value", () -> p.bound(0, 0), 10);
         p.cell(false, 3, 5, 50);
         p.repeat(3, 5, 40);
         p.repeat(3, 5, 55);
@@ -470,9 +499,8 @@ public final class PromiseTest {
 
         PictureChange board = new PictureChange(24, 24);
         for (int y = 0; y < 24; y++) {
-            // Half of the cells would need more than 512 calls with a cell() each; both pictures share the load.
             for (int x = y % 2; x < 24; x += 2) {
-                board.cell(y % 3 == 0, x, y, 200);
+                board.cell(true, x, y, 200);
             }
         }
         due("11: as many as can be", () -> board.run(), 288);
@@ -502,6 +530,13 @@ public final class PromiseTest {
         due("12: no what", () -> p.spot(0, 7), INDEX);
         due("12: no what", () -> p.spot(0, -1), INDEX);
         due("12: no what", () -> p.spot(1, Integer.MIN_VALUE), INDEX);
+
+        PictureChange corner = painted("#...", "....", "....", "....");
+        corner.run();
+        for (int what = 2; what < 6; what++) {
+            int asked = what;
+            due("12: the first cell's box, " + what, () -> corner.spot(0, asked), 0);
+        }
 
         // The cell that comes first row by row is not the leftmost one.
         PictureChange order = painted(
@@ -713,6 +748,20 @@ public final class PromiseTest {
         due("17: four days", () -> p.growth(0), 158);
         due("17: four days, below", () -> p.growth(1), 563);
 
+        PictureChange falling = new PictureChange(4, 4);
+        keep(falling, 1, 9);
+        keep(falling, 2, 4);
+        due("17: falling", () -> falling.growth(0), -5);
+        due("17: falling, below", () -> falling.growth(1), 1);
+        keep(falling, 4, 2);
+        // 3 * 25 - 7 * 15 = -30 and 3 * 21 - 7 * 7 = 14
+        due("17: falling", () -> falling.growth(0), -15);
+        due("17: falling, below", () -> falling.growth(1), 7);
+        keep(falling, 10, 0);
+        // 4 * 25 - 17 * 15 = -155 and 4 * 121 - 17 * 17 = 195
+        due("17: falling", () -> falling.growth(0), -31);
+        due("17: falling, below", () -> falling.growth(1), 39);
+
         PictureChange even = new PictureChange(4, 4);
         keep(even, 0, 7);
         keep(even, 9, 7);
@@ -726,7 +775,8 @@ public final class PromiseTest {
     /** Keeps a day with so many marked cells. */
     private static void keep(PictureChange p, int day, int marked) {
         int width = p.count(0);
-        for (int place = 0; place < width * p.count(1); place++) {
+        int cells = width * p.count(1);
+        for (int place = 0; place < cells; place++) {
             p.cell(true, place % width, place / width, place < marked ? 100 : 0);
         }
         p.run();
