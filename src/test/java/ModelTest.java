@@ -5,13 +5,12 @@ import java.util.Random;
 import java.util.TreeSet;
 
 /** Long runs of calls, compared with a second, slow writing of the document's terms. */
-public final class ModelTest {
+public final class ModelTest extends Checks {
     private static final int RUNS = 400;
     // An object is used for so many calls; what later ones answer is free.
     private static final int CALLS = 512;
     private static final int MOST_CALLS_AT_ONCE = 9;
 
-    private static int wrong = 0;
     private static int calls = 0;
 
     public static void main(String[] args) {
@@ -19,14 +18,7 @@ public final class ModelTest {
             // A seed of its own for each run: every run can be told and made again.
             play(run, new Random(run));
         }
-        System.out.println(wrong == 0 ? "all answers are as due" : wrong + " answers are not as due");
-        if (wrong != 0) {
-            System.exit(1);
-        }
-    }
-
-    private interface Call {
-        long answer();
+        finish();
     }
 
     private static void play(int run, Random random) {
@@ -51,7 +43,7 @@ public final class ModelTest {
 
     private static int about(Random random, int side) {
         if (random.nextInt(200) == 0) {
-            return random.nextBoolean() ? Integer.MIN_VALUE : Integer.MAX_VALUE;
+            return random.nextBoolean() ? LOWEST : HIGHEST;
         }
         return random.nextInt(60) == 0 ? random.nextInt(5) - 3 + side : random.nextInt(side);
     }
@@ -101,20 +93,7 @@ public final class ModelTest {
 
     private static void due(String name, Call asked, Call model) {
         calls++;
-        String got = answer(asked);
-        String want = answer(model);
-        if (!got.equals(want)) {
-            wrong++;
-            System.out.println("run " + name + " answered " + got + ", due is " + want);
-        }
-    }
-
-    private static String answer(Call call) {
-        try {
-            return Long.toString(call.answer());
-        } catch (RuntimeException e) {
-            return "throws." + e.getClass().getSimpleName();
-        }
+        due("run " + name, asked, answerOf(model));
     }
 
     private static final class Model {

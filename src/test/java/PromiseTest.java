@@ -1,15 +1,5 @@
 /** Each promise by hand-made runs: ordinary inputs, the edges that the document names, and wrong inputs. */
-public final class PromiseTest {
-    private static final String INDEX = "throws.IndexOutOfBoundsException";
-    private static final String ARGUMENT = "throws.IllegalArgumentException";
-    private static final String STATE = "throws.IllegalStateException";
-
-    private static int wrong = 0;
-
-    private interface Call {
-        long answer();
-    }
-
+public final class PromiseTest extends Checks {
     public static void main(String[] args) {
         newObject();
         cell();
@@ -39,50 +29,11 @@ public final class PromiseTest {
         growth();
         growthOfLargeSums();
         count();
-        System.out.println(wrong == 0 ? "all answers are as due" : wrong + " answers are not as due");
-        if (wrong != 0) {
-            System.exit(1);
-        }
-    }
-
-    private static void due(String call, Call asked, long want) {
-        due(call, asked, Long.toString(want));
-    }
-
-    private static void due(String call, Call asked, String want) {
-        String got;
-        try {
-            got = Long.toString(asked.answer());
-        } catch (RuntimeException e) {
-            // The exact class: one that the machine throws is a subclass and must not pass for the document's.
-            got = "throws." + e.getClass().getSimpleName();
-        }
-        if (!got.equals(want)) {
-            wrong++;
-            System.out.println(call + " answered " + got + ", due is " + want);
-        }
-    }
-
-    private static long bit(boolean b) {
-        return b ? 1 : 0;
-    }
-
-    private static void paint(PictureChange p, boolean later, String... rows) {
-        for (int y = 0; y < rows.length; y++) {
-            for (int x = 0; x < rows[y].length(); x++) {
-                p.cell(later, x, y, rows[y].charAt(x) == '#' ? 100 : 0);
-            }
-        }
-    }
-
-    private static PictureChange painted(String... rows) {
-        PictureChange p = new PictureChange(rows[0].length(), rows.length);
-        paint(p, true, rows);
-        return p;
+        finish();
     }
 
     private static void newObject() {
-        int[][] sides = {{4, 4}, {24, 24}, {3, 25}, {0, 100}, {-5, 7}, {Integer.MIN_VALUE, Integer.MAX_VALUE}, {5, 23}};
+        int[][] sides = {{4, 4}, {24, 24}, {3, 25}, {0, 100}, {-5, 7}, {LOWEST, HIGHEST}, {5, 23}};
         int[][] held = {{4, 4}, {24, 24}, {4, 24}, {4, 24}, {4, 7}, {4, 24}, {5, 23}};
         for (int k = 0; k < sides.length; k++) {
             PictureChange p = new PictureChange(sides[k][0], sides[k][1]);
@@ -102,7 +53,7 @@ public final class PromiseTest {
             due("1: shift", () -> p.shift(0), 0);
             due("1: shift", () -> p.shift(1), 0);
             due("1: no spot", () -> p.spot(0, 0), INDEX);
-            due("1: map", () -> p.map(0, 0), PictureChange.NONE);
+            due("1: map", () -> p.map(0, 0), NONE);
             due("1: false ones", () -> p.falseOnes(), 0);
             due("1: growth", () -> p.growth(1), 1);
             due("1: bound", () -> p.bound(0, 0), 10);
@@ -122,7 +73,7 @@ public final class PromiseTest {
         due("2: x above", () -> p.cell(false, 5, 0, 1), INDEX);
         due("2: y below", () -> p.cell(true, 0, -1, 1), INDEX);
         due("2: y above", () -> p.cell(true, 0, 4, 1), INDEX);
-        due("2: farthest", () -> p.cell(true, Integer.MAX_VALUE, Integer.MIN_VALUE, 1), INDEX);
+        due("2: farthest", () -> p.cell(true, HIGHEST, LOWEST, 1), INDEX);
         due("2: v below", () -> p.cell(false, 4, 3, -1), ARGUMENT);
         due("2: v above", () -> p.cell(true, 0, 0, 256), ARGUMENT);
         due("2: both wrong", () -> p.cell(false, 5, 0, 256), INDEX);
@@ -131,13 +82,7 @@ public final class PromiseTest {
     }
 
     private static void registerFinds() {
-        PictureChange p = new PictureChange(6, 5);
-        for (int y = 0; y < 5; y++) {
-            for (int x = 0; x < 6; x++) {
-                p.cell(false, x, y, texture(x, y));
-                p.cell(true, x, y, texture(x + 3, y - 2));
-            }
-        }
+        PictureChange p = textured(6, 5, -3, 2);
         p.cell(true, 1, 3, texture(4, 1) + 4);
         p.cell(true, 2, 4, texture(5, 2) - 3);
         due("3: most 0 stays", () -> p.register(0) > 7 ? 1 : 0, 1);
@@ -167,22 +112,11 @@ public final class PromiseTest {
 
     /** Five by five cells of which the later ones lie at a shift, registered. */
     private static PictureChange texturedAt(int across, int down) {
-        PictureChange p = new PictureChange(5, 5);
-        for (int y = 0; y < 5; y++) {
-            for (int x = 0; x < 5; x++) {
-                p.cell(false, x, y, texture(x, y));
-                p.cell(true, x, y, texture(x - across, y - down));
-            }
-        }
+        PictureChange p = textured(5, 5, across, down);
         due("3: textured", () -> p.register(3), 0);
         due("4: textured, across", () -> p.shift(0), across);
         due("4: textured, down", () -> p.shift(1), down);
         return p;
-    }
-
-    /** Values that no shift but the true one lays on their like. */
-    private static int texture(int x, int y) {
-        return 10 + Math.floorMod(x * x * 71 + y * 57 + x * y * 37, 200);
     }
 
     private static void registerBreaksTies() {
@@ -232,7 +166,7 @@ public final class PromiseTest {
         PictureChange p = new PictureChange(4, 4);
         p.cell(true, 0, 0, 50);
         p.register(1);
-        for (int most : new int[] {-1, 4, Integer.MIN_VALUE, Integer.MAX_VALUE}) {
+        for (int most : new int[] {-1, 4, LOWEST, HIGHEST}) {
             due("3: most " + most, () -> p.register(most), ARGUMENT);
         }
         due("3: a refused call changes nothing", () -> p.shift(1), 1);
@@ -251,7 +185,7 @@ public final class PromiseTest {
         due("4: sum", () -> p.register(2), 0);
         due("4: across", () -> p.shift(0), 1);
         due("4: down", () -> p.shift(1), -1);
-        for (int axis : new int[] {-1, 2, Integer.MIN_VALUE, Integer.MAX_VALUE}) {
+        for (int axis : new int[] {-1, 2, LOWEST, HIGHEST}) {
             due("4: axis " + axis, () -> p.shift(axis), INDEX);
         }
     }
@@ -314,7 +248,7 @@ public final class PromiseTest {
         p.cell(true, 0, 0, 0);
         due("6: squares of 0, above", () -> p.gain(0), 1);
         due("6: squares of 0, below", () -> p.gain(1), 1);
-        for (int part : new int[] {-1, 2, Integer.MIN_VALUE, Integer.MAX_VALUE}) {
+        for (int part : new int[] {-1, 2, LOWEST, HIGHEST}) {
             due("6: part " + part, () -> p.gain(part), INDEX);
         }
     }
@@ -526,10 +460,10 @@ public final class PromiseTest {
         }
         due("12: no spot", () -> p.spot(2, 0), INDEX);
         due("12: no spot", () -> p.spot(-1, 0), INDEX);
-        due("12: no spot", () -> p.spot(Integer.MAX_VALUE, 0), INDEX);
+        due("12: no spot", () -> p.spot(HIGHEST, 0), INDEX);
         due("12: no what", () -> p.spot(0, 7), INDEX);
         due("12: no what", () -> p.spot(0, -1), INDEX);
-        due("12: no what", () -> p.spot(1, Integer.MIN_VALUE), INDEX);
+        due("12: no what", () -> p.spot(1, LOWEST), INDEX);
 
         PictureChange corner = painted("#...", "....", "....", "....");
         corner.run();
@@ -560,7 +494,7 @@ public final class PromiseTest {
     }
 
     private static void cracks() {
-        long none = PictureChange.NONE;
+        long none = NONE;
         dueLength("one cell", none, "....", ".#..", "....", "....");
         dueLength("two cells", none, "....", ".##.", "....", "....");
         dueLength("three in a row", 2, "....", ".###", "....", "....");
@@ -634,7 +568,7 @@ public final class PromiseTest {
                 due("13: cell " + x + ", " + y, () -> p.map(atX, atY), w == '.' ? -1 : w - '0');
             }
         }
-        int[][] none = {{-1, 0}, {5, 0}, {0, -1}, {0, 4}, {Integer.MAX_VALUE, 0}, {0, Integer.MIN_VALUE}};
+        int[][] none = {{-1, 0}, {5, 0}, {0, -1}, {0, 4}, {HIGHEST, 0}, {0, LOWEST}};
         for (int[] at : none) {
             due("13: no cell", () -> p.map(at[0], at[1]), INDEX);
         }
@@ -647,7 +581,7 @@ public final class PromiseTest {
                 ".....",
                 "###..",
                 "....#");
-        int high = Integer.MAX_VALUE;
+        int high = HIGHEST;
         due("14: before run()", () -> p.alarm(-1, 0, 0), -1);
         due("14: no spot before run()", () -> p.alarm(0, 0, 0), INDEX);
         due("14: spots", () -> p.run(), 4);
@@ -660,15 +594,15 @@ public final class PromiseTest {
         due("14: at the highest sum", () -> p.alarm(-1, 400, high), -1);
         due("14: a crack of that length", () -> p.alarm(-1, high, 2), 2);
         due("14: a shorter crack", () -> p.alarm(-1, high, 3), -1);
-        due("14: only cracks have lengths", () -> p.alarm(-1, high, Integer.MIN_VALUE), 2);
+        due("14: only cracks have lengths", () -> p.alarm(-1, high, LOWEST), 2);
         due("14: only cracks have lengths", () -> p.alarm(-1, high, -1), 2);
         due("14: behind the crack", () -> p.alarm(2, high, 0), -1);
         due("14: one or the other", () -> p.alarm(1, 350, 2), 2);
-        due("14: a level below 0", () -> p.alarm(2, Integer.MIN_VALUE, high), 3);
+        due("14: a level below 0", () -> p.alarm(2, LOWEST, high), 3);
         due("14: below NONE", () -> p.alarm(-2, 0, 0), INDEX);
         due("14: no spot", () -> p.alarm(4, 0, 0), INDEX);
         due("14: no spot", () -> p.alarm(high, 0, 0), INDEX);
-        due("14: no spot", () -> p.alarm(Integer.MIN_VALUE, 0, 0), INDEX);
+        due("14: no spot", () -> p.alarm(LOWEST, 0, 0), INDEX);
     }
 
     private static void falseOnes() {
@@ -704,7 +638,7 @@ public final class PromiseTest {
         due("16: the last", () -> p.day(10000), 3);
         due("16: behind the last", () -> p.day(10001), ARGUMENT);
         due("16: the same", () -> p.day(10000), ARGUMENT);
-        due("16: farthest", () -> p.day(Integer.MIN_VALUE), ARGUMENT);
+        due("16: farthest", () -> p.day(LOWEST), ARGUMENT);
         due("16: a refused call changes nothing", () -> p.count(5), 3);
 
         PictureChange q = painted("##..", "....", "....", "....");
@@ -767,7 +701,7 @@ public final class PromiseTest {
         keep(even, 9, 7);
         due("17: no growth", () -> even.growth(0), 0);
         due("17: no growth, below", () -> even.growth(1), 1);
-        for (int part : new int[] {-1, 2, Integer.MIN_VALUE, Integer.MAX_VALUE}) {
+        for (int part : new int[] {-1, 2, LOWEST, HIGHEST}) {
             due("17: part " + part, () -> even.growth(part), INDEX);
         }
     }
@@ -820,7 +754,7 @@ public final class PromiseTest {
             int asked = what;
             due("18: count " + what, () -> p.count(asked), want[what]);
         }
-        for (int what : new int[] {-1, 7, Integer.MIN_VALUE, Integer.MAX_VALUE}) {
+        for (int what : new int[] {-1, 7, LOWEST, HIGHEST}) {
             due("18: count " + what, () -> p.count(what), INDEX);
         }
     }
